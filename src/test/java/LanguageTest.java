@@ -24,7 +24,7 @@ public final class LanguageTest {
     public static void main(String[] args) throws IOException {
         faceIsTheDocuments();
         innerClassesAreStatic();
-        sourceKeepsToTheLanguage(args.length > 0 ? args[0] : "src/main/java/CeilingRows.java");
+        sourceKeepsToTheLanguage("src/main/java/CeilingRows.java");
         Check.finish();
     }
 

@@ -13,6 +13,7 @@ public final class PlanTest {
         blockingTakesTheLongest();
         blockingLooksAtRanksNotRanksNow();
         lowerGoesByNumbers();
+        theLastTaskCountsToo();
         Check.finish();
     }
 
@@ -236,5 +237,16 @@ public final class PlanTest {
         x.uses(5, 3, 1);
         Check.due("another core's task", x.lower(2, 1), 0);
         Check.due("alone on its core", x.lower(5, 0), 0);
+    }
+
+    private static void theLastTaskCountsToo() {
+        CeilingRows x = new CeilingRows();
+        x.task(9, 1);
+        x.task(2, 1);
+        x.resource();
+        x.uses(1, 1, 5);
+        x.uses(2, 1, 6);
+        Check.due("blocking by the last task", x.blocking(1), 6);
+        Check.due("lower is the last task", x.lower(1, 0), 2);
     }
 }
