@@ -1,13 +1,18 @@
-/** A new object and calls on it with the answers that are due, all for one sentence of the document. */
+/** A new object and calls on it with the answers that are due, mostly all for one sentence of the document. */
 final class Script {
     private static final int MOST_CALLS = 512;
 
-    private final String sentence;
+    private final String title;
     private final CeilingRows rows = new CeilingRows();
     private int calls;
 
-    private Script(String sentence) {
-        this.sentence = sentence;
+    private Script(String title) {
+        this.title = title;
+    }
+
+    /** A script for something else than a sentence of the document. */
+    static Script titled(String title) {
+        return new Script(title);
     }
 
     /** The sentence is quoted word by word; Sentences looks it up in the document. */
@@ -116,6 +121,6 @@ final class Script {
     }
 
     private String named(String call) {
-        return "\"" + sentence + "\", call " + calls + ": " + call;
+        return "\"" + title + "\", call " + calls + ": " + call;
     }
 }
